@@ -26,6 +26,7 @@ public final class ChoiceTest {
         mixed("the purse is too small", "t;l9013,9002", -9, -9);
         mixed("the purse just does", "t;l9013,9003", 3, 1);
         mixed("nothing is left", "t;l9003,0099", -9, -9);
+        mixed("the last of six", "t;l1010;l1010;l1010;l1010;l1010;l9017,9099", 7, 32);
         mixed("in the minute that counts", "t;l5510;w9019,4109", 9, 2);
         LastJars x = Check.shop("t;l4011;l9014;l9012,6099");
         check.due("one of 2 pence", 2, x.mix(0, 0));
@@ -62,6 +63,9 @@ public final class ChoiceTest {
         check.due("one jar is fewer than two", 4, x.like(0));
         x.fetch(2, 0);
         check.due("whatever is left", 4, x.like(0));
+        LastJars more = Check.shop("t;l5000;l4000;l6000;l5000,0000");
+        check.due("one jar, though two are less as a set", 8, more.like(0));
+        check.due("0 everywhere, alone", -9, Check.shop("t;l0000,0000").like(0));
         LastJars y = Check.shop("t;l5000;l5000;l5000,0000");
         check.due("the least of two", 2, y.like(0));
         check.due("the least of two", 1, y.like(1));
@@ -159,6 +163,9 @@ public final class ChoiceTest {
         served("behind all jars: none", "t;l0010;l0010,0000,0000,0000", 2, 0, 1, -9, -9);
         served("a chain", "t;l5010;l7010;l9010,5000,7000,9000,5000", 3, 0, 1, 2, -9);
         served("a chain turned", "t;l9010;l7010;l5010,5000,7000,9000", 3, 2, 1, 0, -9);
+        served("the last of six", "t;l1010;l1010;l1010;l1010;l1010;l9010,9099,9099", 1, 0, 5, -9, -9);
+        served("six, and nobody", "t;l1010;l1010;l1010;l1010;l1010;l1010,9099,9099", 0, 0, 1, -9, -9);
+        served("six, and all too dear", "t;l9011;l9011;l9011;l9011;l9011;l9011,0000", 0, -9, -9, -9, -9);
         LastJars x = Check.shop(FOUR);
         x.serve(0);
         check.due("nothing is sold", 7, x.many(2));

@@ -15,6 +15,7 @@ public final class SheetTest {
         as();
         trace();
         fault();
+        faultGoes();
         many();
         check.end();
     }
@@ -272,6 +273,46 @@ public final class SheetTest {
         check.due("SIZE", 4, x.fault());
         x.store(0, 0, 0, 1);
         check.due("a text that is not taken is no FAULT", 0, x.fault());
+    }
+
+    /** Each call that names FAULTS leaves none behind, when it is refused and when it comes to none. */
+    private static void faultGoes() {
+        check.promise("35 fault goes");
+        LastJars empty = new LastJars();
+        gone(empty, "year without a store", -3, () -> empty.year(0, 0, 0, 0, 0));
+        gone(empty, "guess without a store", -3, () -> empty.guess(0, 0, 0, 0, 0));
+        LastJars x = Check.shop(THREE);
+        x.sheet(1, 0, 4);
+        gone(x, "store UNKNOWN", -1, () -> x.store(4, 0, 0, 0));
+        gone(x, "store OUTSIDE", -2, () -> x.store(1, 3, 0, 0));
+        gone(x, "store with a wrong text", -100, () -> x.store(1, 0, 0, 4));
+        gone(x, "store", 3, () -> x.store(3, 2, 0, THREE.length()));
+        gone(x, "year UNKNOWN", -1, () -> x.year(4, 0, 0, 0, 0));
+        gone(x, "year OUTSIDE", -2, () -> x.year(1, 0, 0, 21, 0));
+        gone(x, "year first wrong", -101, () -> x.year(1, 0, 0, 2, 0));
+        gone(x, "year", 1, () -> x.year(1, 0, 0, 1, 0));
+        gone(x, "guess UNKNOWN", -1, () -> x.guess(4, 0, 0, 0, 0));
+        gone(x, "guess OUTSIDE", -2, () -> x.guess(1, 0, 0, 0, 3));
+        gone(x, "guess", 6, () -> x.guess(1, 0, 0, 1, 0));
+        gone(x, "sheet UNKNOWN", -1, () -> x.sheet(4, 0, 0));
+        gone(x, "sheet OUTSIDE", -2, () -> x.sheet(2, 3, 0));
+        gone(x, "sheet", 1, () -> x.sheet(2, 0, 4));
+        gone(x, "put UNKNOWN", -1, () -> x.put(4, 0, 0));
+        gone(x, "put", 1, () -> x.put(2, 0, 0));
+        gone(x, "cell UNKNOWN", Long.MIN_VALUE, () -> x.cell(4, 0, 0));
+        gone(x, "cell OUTSIDE", Long.MIN_VALUE, () -> x.cell(2, 0, 3));
+        gone(x, "cell", 0, () -> x.cell(2, 0, 0));
+        gone(x, "copy UNKNOWN", -1, () -> x.copy(0, 0, 4, 0, 0));
+        gone(x, "copy", 4, () -> x.copy(1, 0, 2, 0, 4));
+        gone(x, "as UNKNOWN", -1, () -> x.as(3, 0));
+        gone(x, "as OUTSIDE", -2, () -> x.as(0, 3));
+        gone(x, "as", 1, () -> x.as(2, 2));
+    }
+
+    private static void gone(LastJars x, String name, long want, java.util.function.LongSupplier call) {
+        check.due("put ahead of " + name, -11, x.put(0, 0, 0));
+        check.due(name, want, call);
+        check.due("fault() behind " + name, 0, x.fault());
     }
 
     private static void many() {

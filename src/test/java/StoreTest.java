@@ -79,6 +79,11 @@ public final class StoreTest {
         fault(27, "t;l0000,0000,0000,0000,0000,0000");
         fault(17, "t;l0000,0000,0000x");
         fault(15, "t;l0000,0000,00");
+        LastJars x = new LastJars();
+        Check.lay(x, 0, 0, Check.codes("t;l0000;w0000,0000,0000"));
+        for (int n = 0; n < 23; n++) {
+            check.due("the first " + n + " of more cells", n == 18 ? 2 : -100 - n, x.store(0, 0, 0, n));
+        }
     }
 
     private static void fault(int place, String text) {
@@ -137,6 +142,12 @@ public final class StoreTest {
         check.due("many(0)", 1, x.many(0));
         check.due("many(1)", 1, x.many(1));
         check.due("many(2)", 9, x.many(2));
+        check.due("four, and then one", 4, Check.store(x, "t;l0019;l9990;l9990;l9990,9099,9099"));
+        Check.store(x, "t;l0090,9099,0000");
+        check.due("jars that are gone are not served", 1, x.serve(-1));
+        check.due("jars that are gone are not blended", -9, x.mix(0, 0));
+        check.due("jars that are gone are not like it", -9, x.like(0));
+        check.due("deciders that are gone don't decide", -9, x.serve(2));
     }
 
     private static void ofJar() {
