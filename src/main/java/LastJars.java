@@ -149,9 +149,10 @@ public final class LastJars {
             return failed(found);
         }
         latestFault = NO_FAULT;
-        if (!sales.goThrough(shop, row, i, n)) {
+        if (!Sales.areAllThere(shop, row, i, n)) {
             return UNKNOWN;
         }
+        sales.goThrough(shop, row, i, n);
         return sales.answer(shop, what);
     }
 
@@ -707,18 +708,33 @@ public final class LastJars {
                 || isBelow(what - PURSE_THEN, MOST_DECIDERS);
         }
 
-        /** False: it comes to a cell that is no DECIDER, no JAR; what is behind the FIRST WRONG is not come to. */
-        boolean goThrough(Shop shop, Sheet row, int i, int n) {
-            begin(shop);
-            for (int pair = 0; pair < n && firstWrong == NONE; pair++) {
-                int b = row.at(i + 2 * pair);
-                int j = row.at(i + 2 * pair + 1);
-                Decider decider = shop.deciderAt(b);
-                Jar jar = shop.jarAt(j);
-                if (decider == null || jar == null) {
+        /** Pairs behind the FIRST WRONG count, too: only a row of DECIDERS and JARS is a YEAR at all. */
+        static boolean areAllThere(Shop shop, Sheet row, int i, int n) {
+            for (int pair = 0; pair < n; pair++) {
+                if (buyerOf(shop, row, i, pair) == null || jarOf(shop, row, i, pair) == null) {
                     return false;
                 }
-                if (halves[j] < 1 || jar.price > purses[b]) {
+            }
+            return true;
+        }
+
+        private static Decider buyerOf(Shop shop, Sheet row, int i, int pair) {
+            return shop.deciderAt(row.at(i + 2 * pair));
+        }
+
+        private static Jar jarOf(Shop shop, Sheet row, int i, int pair) {
+            return shop.jarAt(row.at(i + 2 * pair + 1));
+        }
+
+        /** Goes through pairs that are all there, up to the FIRST WRONG. */
+        void goThrough(Shop shop, Sheet row, int i, int n) {
+            begin(shop);
+            for (int pair = 0; pair < n && firstWrong == NONE; pair++) {
+                Decider decider = buyerOf(shop, row, i, pair);
+                Jar jar = jarOf(shop, row, i, pair);
+                int b = row.at(i + 2 * pair);
+                int j = row.at(i + 2 * pair + 1);
+                if (decider == null || jar == null || halves[j] < 1 || jar.price > purses[b]) {
                     firstWrong = pair;
                 } else {
                     halves[j]--;
@@ -727,7 +743,6 @@ public final class LastJars {
                     decided += decider.decidesBy(jar) ? 1 : 0;
                 }
             }
-            return true;
         }
 
         private void begin(Shop shop) {

@@ -350,6 +350,11 @@ final class Model {
         }
         stored();
         int[] row = cells(a[0], a[1], a[2], 2 * a[3]);
+        for (int c = 0; c < row.length; c++) {
+            if (row[c] < 0 || row[c] >= (c % 2 == 0 ? deciders.size() : jars.size())) {
+                throw new Refused(-1);
+            }
+        }
         List<Jar> jarsNow = new ArrayList<>(jars);
         List<Decider> decidersNow = new ArrayList<>(deciders);
         try {
@@ -369,9 +374,6 @@ final class Model {
             try {
                 count += sell(row[2 * p], row[2 * p + 1]);
             } catch (Refused refused) {
-                if (refused.answer == -1) {
-                    throw refused;
-                }
                 return what == 1 ? p : -100 - p;
             }
         }

@@ -122,6 +122,7 @@ public final class SalesTest {
         LastJars x = Check.shop(FOUR);
         Check.lay(x, 0, 2, 2, 0, 1, 2, 2, 0, 2, 2, 7, 7);
         check.due("none left: place", 2, x.year(0, 2, 0, 4, 1));
+        check.due("a pair that is none behind it", -1, x.year(0, 2, 0, 5, 1));
         check.due("none left: decide", -102, x.year(0, 2, 0, 4, 0));
         check.due("none left: pence", -102, x.year(0, 2, 0, 4, 2));
         check.due("none left: empty", -102, x.year(0, 2, 0, 4, 3));
@@ -167,6 +168,24 @@ public final class SalesTest {
         Check.lay(x, 0, 0, 2, 0, 9, 9);
         check.due("behind a sale that can be", -1, x.year(0, 0, 0, 2, 1));
         check.due("ahead of it", 0, x.year(0, 0, 0, 1, 0));
+        unknownBehindWrong(x, 3, 0);
+        unknownBehindWrong(x, -1, 0);
+        unknownBehindWrong(x, 0, 4);
+        unknownBehindWrong(x, 0, -1);
+    }
+
+    /** A row with a cell that is no DECIDER, no JAR is no YEAR, so it has no FIRST WRONG either. */
+    private static void unknownBehindWrong(LastJars x, int b, int j) {
+        x.pay(0, 0);
+        Check.lay(x, 0, 0, 0, 0, 2, 3, b, j, 2, 0);
+        for (int what : new int[] {0, 1, 2, 3, 10, 15, 20, 23}) {
+            String told = b + " " + j + " what " + what;
+            check.due("first wrong ahead of " + told, what == 1 ? 0 : -100, x.year(0, 0, 0, 2, what));
+            check.due("as the last pair " + told, -1, x.year(0, 0, 0, 3, what));
+            check.due("as one among them " + told, -1, x.year(0, 0, 0, 4, what));
+            check.due("fault()", 0, x.fault());
+        }
+        x.pay(0, 5);
     }
 
     private static void unknown(LastJars x, int b, int j) {
