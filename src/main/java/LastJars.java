@@ -207,7 +207,11 @@ public final class LastJars {
         if (shop.isMissing()) {
             return STATE;
         }
-        return k == -1 ? service.howMany(shop) : service.jarFor(shop, k);
+        if (k == -1) {
+            return service.howMany(shop);
+        }
+        service.choose(shop);
+        return service.jarFor(shop, k);
     }
 
     public int dear(int j) {
@@ -477,20 +481,11 @@ public final class LastJars {
             }
         }
 
+        /** A TWIST, and so a PLUG, is where a LEAF was a MINUTE sooner. */
         int markIn(int minute) {
-            switch (kind) {
-                case LEAF: return leafMark(minute);
-                case TWIST: return twistMark(minute);
-                default: return twistMark(minute) / 2;
-            }
-        }
-
-        private int leafMark(int minute) {
-            return Math.max(0, sure - fade * minute);
-        }
-
-        private int twistMark(int minute) {
-            return minute == 0 ? 0 : leafMark(minute - 1);
+            int ahead = kind == LEAF ? minute : minute - 1;
+            int whole = ahead < 0 ? 0 : Math.max(0, sure - fade * ahead);
+            return kind == PLUG ? whole / 2 : whole;
         }
 
         private int greatest() {
@@ -917,8 +912,8 @@ public final class LastJars {
             return most(shop, left, 0);
         }
 
+        /** What was chosen last. */
         int jarFor(Shop shop, int b) {
-            choose(shop);
             return isBelow(b, shop.deciderCount) ? chosen[b] : NONE;
         }
 
@@ -959,7 +954,7 @@ public final class LastJars {
             return best;
         }
 
-        private void choose(Shop shop) {
+        void choose(Shop shop) {
             int open = howMany(shop);
             for (int b = 0; b < shop.deciderCount; b++) {
                 chosen[b] = firstChoice(shop, b, open);
